@@ -16,6 +16,7 @@ public final class CloseClocks {
     private static final int LEAST_RATE = 90;
     private static final int USUAL_RATE = 100;
     private static final int GREATEST_RATE = 110;
+    private static final int TICK_OF_GUESS = 100;
     private static final int GREATEST_ERROR = 9;
     private static final int GREATEST_STEP = 500;
     private static final int GREATEST_BOOST = 60;
@@ -622,8 +623,9 @@ public final class CloseClocks {
         }
 
         int guess(int node, int neighbour) {
-            int ago = delays[cell(node, neighbour)];
-            return past[cell(ago, neighbour)] + USUAL_RATE * ago + errors[cell(node, neighbour)];
+            int link = cell(node, neighbour);
+            int ago = delays[link];
+            return past[cell(ago, neighbour)] + TICK_OF_GUESS * ago + errors[link];
         }
 
         int aheadOf(int node) {
@@ -648,15 +650,17 @@ public final class CloseClocks {
 
         /** Leaves AHEAD and BEHIND of a NODE in their fields: one round serves both. */
         private void compareGuesses(int node) {
-            ahead = NONE;
-            behind = NONE;
+            int mostAhead = NONE;
+            int mostBehind = NONE;
             int clock = clockOf(node);
             int degree = shape.degrees[node];
             for (int i = 0; i < degree; i++) {
                 int more = guess(node, shape.neighbourOf(node, i)) - clock;
-                ahead = Math.max(ahead, more);
-                behind = Math.max(behind, -more);
+                mostAhead = Math.max(mostAhead, more);
+                mostBehind = Math.max(mostBehind, -more);
             }
+            ahead = mostAhead;
+            behind = mostBehind;
         }
 
         // BEHIND lets no lower level be; a higher one asks more of AHEAD: so only one level is tried.

@@ -201,6 +201,7 @@ public final class PromisesTest {
         due("5 whole net", x.net(), 6);
         due("5 links of the whole", x.count(1), 15);
         due("5 neighbours in the whole", x.node(5, 3), 5);
+        due("5 neighbours in the whole", x.node(1, 3), 5);
         due("5 last delay of the whole", x.link(5, 4, 0), 2);
         due("5 how often", x.count(7), 2);
     }
@@ -319,6 +320,8 @@ public final class PromisesTest {
         CloseClocks x = Check.withNet("4,120,231");
         due("10 delay", x.delay(1, 2, 3), 0);
         due("10 delay both ways", x.delay(2, 1, 2), 3);
+        due("10 delay none", x.delay(2, 1, 0), 2);
+        due("10 delay none", x.delay(2, 1, 2), 0);
         due("10 delay", x.link(1, 2, 0), 2);
         due("10 delay", x.link(2, 1, 0), 2);
         due("10 delay of another link", x.link(2, 3, 0), 1);
@@ -444,6 +447,14 @@ public final class PromisesTest {
     }
 
     private static void nodeLevels() {
+        CloseClocks x = Check.withNet("3,010,120");
+        x.put(1, 100);
+        due("12 up of the first", x.node(0, 6), 0);
+        due("12 up of the second", x.node(1, 6), NONE);
+        due("12 down of the first", x.node(0, 7), NONE);
+        due("12 down of the second", x.node(1, 7), 1);
+        due("12 down of the third", x.node(2, 7), NONE);
+        due("12 up of the third", x.node(2, 6), 0);
         levelsOf(20, 0, 0, NONE, NONE);
         levelsOf(20, 19, 0, NONE, NONE);
         levelsOf(20, 20, 0, 0, NONE);
@@ -511,6 +522,8 @@ public final class PromisesTest {
         }
         due("14 the longest way", Check.withNet("6,500,010,120,230,340").hops(5, 4), 5);
         due("14 the shorter way", Check.withNet("6,500,010,120,230,340,450").hops(5, 3), 2);
+        due("14 to the first", Check.withNet("3,120,010").hops(2, 0), 2);
+        due("14 from the first", Check.withNet("3,120,010").hops(0, 2), 2);
         refused("14 node", x, UNKNOWN, node -> x.hops(node, 0), 6, -1);
         refused("14 other", x, UNKNOWN, other -> x.hops(0, other), 6, -1);
         due("14 the same, but unknown", x.hops(6, 6), UNKNOWN);
@@ -546,6 +559,11 @@ public final class PromisesTest {
         due("15 greatest stays", x.skew(3), 60);
         refused("15 what", x, OUTSIDE, x::skew, 4, -1);
         due("15 greatest in the midst of a go", withPeak().skew(3), 110);
+        CloseClocks even = Check.withNet("3,010");
+        even.go(5);
+        due("15 global of none apart", even.skew(1), 0);
+        even.put(0, 499);
+        due("15 global by the first", even.skew(1), 1);
     }
 
     /** Skew 120 at first, 110 behind the first tick, less behind the others. */
@@ -602,6 +620,21 @@ public final class PromisesTest {
         CloseClocks wide = Check.withNet("6,450");
         wide.put(5, 1);
         due("17 the highest bit", wide.worst(1, 1), 32);
+        CloseClocks calm = Check.withNet("2,010");
+        calm.set(0, 40);
+        calm.set(1, 60);
+        calm.put(0, 39);
+        due("17 how much by none", calm.worst(2, 0), 39);
+        due("17 by none", calm.worst(2, 1), 0);
+        CloseClocks late = Check.withNet("2,011");
+        late.put(0, 1000);
+        late.put(1, 1119);
+        due("17 guesses are late", late.worst(1, 0), 129);
+        late.wrong(1, 0, 9);
+        late.put(1, 1088);
+        due("17 guesses are a little wrong", late.worst(1, 0), 108);
+        late.wrong(1, 0, 7);
+        due("17 guesses are less wrong", late.worst(1, 0), 98);
     }
 
     private static void image() {
@@ -685,6 +718,11 @@ public final class PromisesTest {
             due("20 count " + what, x.count(what), due[what]);
         }
         refused("20 what", x, OUTSIDE, x::count, 9, -1);
+        x.put(0, 0);
+        x.put(1, 400);
+        x.put(2, 601);
+        x.go(1);
+        due("20 the first is fast too", x.count(6), 3);
     }
 
     private static void digest() {
