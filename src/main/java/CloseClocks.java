@@ -688,20 +688,17 @@ public final class CloseClocks {
         /** What a TICK does to CLOCKS and to who is FAST, without counting it. */
         void move(int step, int boost) {
             for (int v = 0; v < shape.nodes; v++) {
-                trigger(v, step);
+                compareGuesses(v);
+                if (upLevel(step) != NONE) {
+                    fast[v] = 1;
+                } else if (downLevel(step) != NONE) {
+                    fast[v] = 0;
+                }
             }
+            // Only now, as every NODE has looked at the CLOCKS as they were.
             System.arraycopy(past, 0, past, MOST_NODES, LONGEST_DELAY * MOST_NODES);
             for (int v = 0; v < shape.nodes; v++) {
                 past[v] += rates[v] + fast[v] * boost;
-            }
-        }
-
-        private void trigger(int node, int step) {
-            compareGuesses(node);
-            if (upLevel(step) != NONE) {
-                fast[node] = 1;
-            } else if (downLevel(step) != NONE) {
-                fast[node] = 0;
             }
         }
 
